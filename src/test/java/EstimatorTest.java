@@ -7,8 +7,10 @@ public final class EstimatorTest {
         promise8DeadZone();
         promise8DirectionalForgetting();
         promise8Boxes();
+        promise8BoundsOfGains();
         promise8BoundsOfP();
         promise8Reset();
+        promise8NoReset();
         promise8Wrong();
         promise9Restart();
         promise10Parameter();
@@ -123,11 +125,34 @@ public final class EstimatorTest {
         Checks.due("a parameter inside is not counted", end.count(3), 0);
     }
 
-    private static void promise8BoundsOfP() {
+    private static SelfTuner growing() {
         SelfTuner x = new SelfTuner();
         x.set(0, 50000);
         x.set(1, 0);
         x.set(2, 0);
+        return x;
+    }
+
+    private static void put(SelfTuner x, int parameter, int value) {
+        x.setBox(parameter, value, value);
+        x.setBox(parameter, -END, END);
+    }
+
+    /** Behind these samples P has bent so far that s is 0, and k = (-114221135, -223093, 151093673). */
+    private static void promise8BoundsOfGains() {
+        SelfTuner x = growing();
+        for (int i = 0; i < 8; i++) {
+            x.sample(2, 2000, i % 2 == 0 ? -4000 : 4000);
+        }
+        put(x, 0, 0);
+        put(x, 1, 0);
+        put(x, 2, -50);
+        Checks.due("an error of 50 / ONE", x.sample(2, 2000, 0), 0);
+        dueParameters("behind gains at their ends", x, -5000, -171, 4950);
+    }
+
+    private static void promise8BoundsOfP() {
+        SelfTuner x = growing();
         boolean bounded = true;
         for (int i = 0; i < 40; i++) {
             x.sample(0, 0, i % 2 == 0 ? 5 : -5);
@@ -150,10 +175,7 @@ public final class EstimatorTest {
     }
 
     private static void promise8Reset() {
-        SelfTuner x = new SelfTuner();
-        x.set(0, 50000);
-        x.set(1, 0);
-        x.set(2, 0);
+        SelfTuner x = growing();
         for (int i = 0; i < 9; i++) {
             x.sample(1, 1, i % 2 == 0 ? 4000 : -4000);
         }
@@ -167,6 +189,23 @@ public final class EstimatorTest {
             }
         }
         Checks.due("the samples go on", x.count(0), 10);
+    }
+
+    /** A run that was searched for: the diagonal of P ends at exactly 2500 * ONE. */
+    private static void promise8NoReset() {
+        SelfTuner x = growing();
+        x.set(0, 50028);
+        for (int i = 0; i < 9; i++) {
+            x.sample(1, -1, i % 2 == 0 ? 4000 : -4000);
+        }
+        x.set(0, 59564);
+        x.sample(1, -1, -4000);
+        Checks.due("2500 * ONE", x.covariance(0, 0) + x.covariance(1, 1) + x.covariance(2, 2), 2500L * 65536);
+        Checks.due("is no reset", x.count(2), 0);
+        x.undo();
+        x.set(0, 59563);
+        x.sample(1, -1, -4000);
+        Checks.due("a little more is one", x.count(2), 1);
     }
 
     private static void promise8Wrong() {

@@ -65,6 +65,13 @@ public final class ExcitationTest {
         dueExciting(1, 64, 100, true);
         dueExciting(21, 3, 0, false);
         dueExciting(16, 4, 0, true);
+        SelfTuner three = new SelfTuner();
+        three.set(3, 3);
+        three.sample(1, 0, 0);
+        three.sample(0, 1, 0);
+        three.sample(92, 23, 0);
+        Checks.due("8465 * 530 - 2116 * 2116", three.determinant(), 8994);
+        Checks.due("is below 1000 * 3 * 3", three.exciting(), false);
         SelfTuner edge = new SelfTuner();
         edge.set(3, 10);
         for (int i = 0; i < 10; i++) {
