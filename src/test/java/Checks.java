@@ -4,8 +4,14 @@ import java.util.function.LongSupplier;
 final class Checks {
     private static int wrong = 0;
     private static int made = 0;
+    private static String sentence = "";
 
     private Checks() {
+    }
+
+    /** The sentence of the document that the checks from here on stand for: each wrong answer is told with it. */
+    static void sentence(String text) {
+        sentence = text + " -- ";
     }
 
     static void due(String what, long got, long want) {
@@ -79,7 +85,7 @@ final class Checks {
     static void wrong(String text) {
         wrong++;
         if (wrong <= 50) {
-            System.out.println(text);
+            System.out.println(sentence + text);
         }
     }
 

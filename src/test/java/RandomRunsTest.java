@@ -4,7 +4,8 @@ import java.util.function.LongSupplier;
 /** Runs of random calls, all promises in turn, each answer compared with the model's. */
 public final class RandomRunsTest {
     private static final int RUNS = 500;
-    private static final int CALLS = 240;
+    // An object is used for at most 512 calls; the longest text that is appended at once has 18 bytes.
+    private static final int CALLS = 512 - 20;
     // Small regressors, much forgetting and nothing ignored: P grows until it is reset.
     private static final int GROWTH = 3;
     private static final String[] CORNERS = {
@@ -23,6 +24,7 @@ public final class RandomRunsTest {
     private final Model m = new Model();
     private final int manner;
     private String call = "";
+    private int made = 0;
 
     private RandomRunsTest(int run) {
         random = new Random(run);
@@ -40,8 +42,9 @@ public final class RandomRunsTest {
     }
 
     private void go(int run) {
-        for (int i = 0; i < CALLS; i++) {
+        for (int i = 0; made < CALLS; i++) {
             compare(run, i);
+            made += 2;
             Checks.due("run " + run + ", digest() after call " + i + ", " + call, x.digest(), m.digest());
         }
     }
@@ -224,6 +227,7 @@ public final class RandomRunsTest {
 
     private long appendAll(String t, boolean ofX) {
         long answer = 0;
+        made += ofX ? t.length() : 0;
         for (int i = 0; i < t.length(); i++) {
             answer = ofX ? x.append(t.charAt(i)) : m.append(t.charAt(i));
         }
