@@ -5,11 +5,11 @@ public final class CallsTest {
     private static final int CALLS = 512;
 
     public static void main(String[] args) {
-        dearestCalls();
-        undoableCalls();
-        longestRuns();
-        fullTexts();
-        queries();
+        Checks.run(CallsTest::dearestCalls);
+        Checks.run(CallsTest::undoableCalls);
+        Checks.run(CallsTest::longestRuns);
+        Checks.run(CallsTest::fullTexts);
+        Checks.run(CallsTest::queries);
         Checks.end("CallsTest");
     }
 

@@ -5,6 +5,7 @@ final class Checks {
     private static int wrong = 0;
     private static int made = 0;
     private static String sentence = "";
+    private static int wrongOfSentence = 0;
 
     private Checks() {
     }
@@ -12,6 +13,24 @@ final class Checks {
     /** The sentence of the document that the checks from here on stand for: each wrong answer is told with it. */
     static void sentence(String text) {
         sentence = text + " -- ";
+        wrongOfSentence = 0;
+    }
+
+    /** Runs a test; an exception that it does not expect is a wrong answer, and no end for the tests behind it. */
+    static void run(Runnable test) {
+        sentence = "";
+        wrongOfSentence = 0;
+        part(test);
+    }
+
+    /** The same for a part of a test. */
+    static void part(Runnable test) {
+        try {
+            test.run();
+        } catch (RuntimeException e) {
+            wrong("an unexpected " + e);
+            e.printStackTrace(System.out);
+        }
     }
 
     static void due(String what, long got, long want) {
@@ -84,7 +103,8 @@ final class Checks {
 
     static void wrong(String text) {
         wrong++;
-        if (wrong <= 50) {
+        wrongOfSentence++;
+        if (wrongOfSentence <= 10) {
             System.out.println(sentence + text);
         }
     }

@@ -4,22 +4,22 @@ public final class ControlEdgesTest {
     private static final int END = 20 * ONE;
 
     public static void main(String[] args) {
-        smallestGain();
-        signOfTheSmallestGain();
-        endsOfTheSmallestGain();
-        rounding();
-        negativeGain();
-        greatestNumerators();
-        ditherOfEvenAndOdd();
-        numberOfSamplesForTheDither();
-        endsOfTheDither();
-        limits();
-        limitBehindTheDither();
-        endsOfTheLimit();
-        stateStays();
-        runOfNoSteps();
-        runOfAllSteps();
-        closedStep();
+        Checks.run(ControlEdgesTest::smallestGain);
+        Checks.run(ControlEdgesTest::signOfTheSmallestGain);
+        Checks.run(ControlEdgesTest::endsOfTheSmallestGain);
+        Checks.run(ControlEdgesTest::rounding);
+        Checks.run(ControlEdgesTest::negativeGain);
+        Checks.run(ControlEdgesTest::greatestNumerators);
+        Checks.run(ControlEdgesTest::ditherOfEvenAndOdd);
+        Checks.run(ControlEdgesTest::numberOfSamplesForTheDither);
+        Checks.run(ControlEdgesTest::endsOfTheDither);
+        Checks.run(ControlEdgesTest::limits);
+        Checks.run(ControlEdgesTest::limitBehindTheDither);
+        Checks.run(ControlEdgesTest::endsOfTheLimit);
+        Checks.run(ControlEdgesTest::stateStays);
+        Checks.run(ControlEdgesTest::runOfNoSteps);
+        Checks.run(ControlEdgesTest::runOfAllSteps);
+        Checks.run(ControlEdgesTest::closedStep);
         Checks.end("ControlEdgesTest");
     }
 

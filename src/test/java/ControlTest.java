@@ -1,14 +1,14 @@
 /** Promises 18 and 19: the control law and closed steps. */
 public final class ControlTest {
     public static void main(String[] args) {
-        promise18Control();
-        promise18SmallestGain();
-        promise18NegativeGain();
-        promise18DitherAndLimit();
-        promise18Wrong();
-        promise19Run();
-        promise19Dither();
-        promise19Wrong();
+        Checks.run(ControlTest::promise18Control);
+        Checks.run(ControlTest::promise18SmallestGain);
+        Checks.run(ControlTest::promise18NegativeGain);
+        Checks.run(ControlTest::promise18DitherAndLimit);
+        Checks.run(ControlTest::promise18Wrong);
+        Checks.run(ControlTest::promise19Run);
+        Checks.run(ControlTest::promise19Dither);
+        Checks.run(ControlTest::promise19Wrong);
         Checks.end("ControlTest");
     }
 

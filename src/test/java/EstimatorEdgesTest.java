@@ -5,30 +5,31 @@ public final class EstimatorEdgesTest {
     private static final int FIRST = 100 * ONE;
 
     public static void main(String[] args) {
-        step1Error();
-        step1Rounding();
-        step1NumberOfSamples();
-        step1Window();
-        step2DeadZone();
-        step2NothingElse();
-        step3SpreadAtLeastNothing();
-        step3ExcitationLimit();
-        step3NoExcitationLimit();
-        step3ForgettingFactor();
-        step3GainAtMost();
-        step3GainAtLeast();
-        step4Rounding();
-        step4Boxes();
-        step4NearerEnd();
-        step4CountsSamples();
-        step5Rounding();
-        step5DiagonalAtMost();
-        step5ElementAtMost();
-        step5ElementAtLeast();
-        step5DiagonalAtLeast();
-        step6ExactlyTheBound();
-        step6JustAboveTheBound();
-        step6InitialOne();
+        Checks.run(EstimatorEdgesTest::step1Error);
+        Checks.run(EstimatorEdgesTest::step1Rounding);
+        Checks.run(EstimatorEdgesTest::step1NumberOfSamples);
+        Checks.run(EstimatorEdgesTest::step1Window);
+        Checks.run(EstimatorEdgesTest::step2DeadZone);
+        Checks.run(EstimatorEdgesTest::step2NothingElse);
+        Checks.run(EstimatorEdgesTest::step3SpreadAtLeastNothing);
+        Checks.run(EstimatorEdgesTest::step3ExcitationLimit);
+        Checks.run(EstimatorEdgesTest::step3NoExcitationLimit);
+        Checks.run(EstimatorEdgesTest::step3ForgettingFactor);
+        Checks.run(EstimatorEdgesTest::step3GainAtMost);
+        Checks.run(EstimatorEdgesTest::step3GainAtLeast);
+        Checks.run(EstimatorEdgesTest::step4Rounding);
+        Checks.run(EstimatorEdgesTest::step4Boxes);
+        Checks.run(EstimatorEdgesTest::step4NearerEnd);
+        Checks.run(EstimatorEdgesTest::step4CountsSamples);
+        Checks.run(EstimatorEdgesTest::step4EachParameter);
+        Checks.run(EstimatorEdgesTest::step5Rounding);
+        Checks.run(EstimatorEdgesTest::step5DiagonalAtMost);
+        Checks.run(EstimatorEdgesTest::step5ElementAtMost);
+        Checks.run(EstimatorEdgesTest::step5ElementAtLeast);
+        Checks.run(EstimatorEdgesTest::step5DiagonalAtLeast);
+        Checks.run(EstimatorEdgesTest::step6ExactlyTheBound);
+        Checks.run(EstimatorEdgesTest::step6JustAboveTheBound);
+        Checks.run(EstimatorEdgesTest::step6InitialOne);
         Checks.end("EstimatorEdgesTest");
     }
 
@@ -138,13 +139,22 @@ public final class EstimatorEdgesTest {
 
     private static void step2NothingElse() {
         Checks.sentence("Step 2: ... nothing else happens");
-        SelfTuner x = Twins.busy();
+        // Neither the greatest s nor one that is less than the excitation limit matters.
+        dueNothingElse(Twins.busy(), 0, 60000);
+        SelfTuner x = new SelfTuner();
+        x.sample(3, 4, 4000);
+        dueNothingElse(x, 100, ONE);
+    }
+
+    private static void dueNothingElse(SelfTuner x, int limit, int forgetting) {
+        x.set(1, 500);
+        x.set(2, limit);
         long[] before = estimate(x);
         int samples = x.count(0);
         int ignored = x.count(1);
-        x.set(1, 500);
-        // The prediction is within 500 of it.
-        x.sample(3, 4, (int) x.predict(3, 4));
+        int near = (int) x.predict(3, 4) + 1;
+        Checks.due("L, if the sample were not ignored", new Step(x, 3, 4, near).forgetting, forgetting);
+        x.sample(3, 4, near);
         long[] after = estimate(x);
         for (int i = 0; i < before.length; i++) {
             Checks.due("number " + i + " of the estimate", after[i], before[i]);
@@ -386,6 +396,24 @@ public final class EstimatorEdgesTest {
         ignored.setBox(1, 0, 0);
         ignored.sample(0, 0, 1);
         Checks.due("an ignored sample does not count", ignored.count(3), 0);
+    }
+
+    private static void step4EachParameter() {
+        Checks.sentence("Step 4: Each parameter i increases: the others, too, when one is brought into its box");
+        for (int boxes = 0; boxes < 8; boxes++) {
+            SelfTuner x = with(0, 0, 0);
+            for (int i = 0; i < 3; i++) {
+                if ((boxes >> i & 1) == 1) {
+                    x.setBox(i, -5, 5);
+                }
+            }
+            x.sample(1, 1, 10);
+            for (int i = 0; i < 3; i++) {
+                // k = ONE * FIRST / (64880 + 3 * FIRST) = 21773
+                Checks.due("parameter(" + i + ") with the boxes " + boxes, x.parameter(i),
+                        (boxes >> i & 1) == 1 ? 5 : 217730);
+            }
+        }
     }
 
     private static void step5Rounding() {

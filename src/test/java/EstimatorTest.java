@@ -3,21 +3,21 @@ public final class EstimatorTest {
     private static final int END = 20 * 65536;
 
     public static void main(String[] args) {
-        promise8Sample();
-        promise8DeadZone();
-        promise8DirectionalForgetting();
-        promise8Boxes();
-        promise8BoundsOfGains();
-        promise8BoundsOfP();
-        promise8Reset();
-        promise8NoReset();
-        promise8Wrong();
-        promise9Restart();
-        promise10Parameter();
-        promise11Covariance();
-        promise12Count();
-        promise13Predict();
-        promise14Uncertainty();
+        Checks.run(EstimatorTest::promise8Sample);
+        Checks.run(EstimatorTest::promise8DeadZone);
+        Checks.run(EstimatorTest::promise8DirectionalForgetting);
+        Checks.run(EstimatorTest::promise8Boxes);
+        Checks.run(EstimatorTest::promise8BoundsOfGains);
+        Checks.run(EstimatorTest::promise8BoundsOfP);
+        Checks.run(EstimatorTest::promise8Reset);
+        Checks.run(EstimatorTest::promise8NoReset);
+        Checks.run(EstimatorTest::promise8Wrong);
+        Checks.run(EstimatorTest::promise9Restart);
+        Checks.run(EstimatorTest::promise10Parameter);
+        Checks.run(EstimatorTest::promise11Covariance);
+        Checks.run(EstimatorTest::promise12Count);
+        Checks.run(EstimatorTest::promise13Predict);
+        Checks.run(EstimatorTest::promise14Uncertainty);
         Checks.end("EstimatorTest");
     }
 

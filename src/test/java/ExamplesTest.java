@@ -1,11 +1,11 @@
 /** The examples of the document, in its order. */
 public final class ExamplesTest {
     public static void main(String[] args) {
-        example1();
-        example2();
-        example3();
-        example4();
-        example5();
+        Checks.run(ExamplesTest::example1);
+        Checks.run(ExamplesTest::example2);
+        Checks.run(ExamplesTest::example3);
+        Checks.run(ExamplesTest::example4);
+        Checks.run(ExamplesTest::example5);
         Checks.due("NONE", SelfTuner.NONE, -1);
         Checks.end("ExamplesTest");
     }

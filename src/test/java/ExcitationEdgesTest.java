@@ -1,17 +1,17 @@
 /** The sentences of "Excitation" that name a bound: an empty window, a full one, and just exciting enough. */
 public final class ExcitationEdgesTest {
     public static void main(String[] args) {
-        emptyWindow();
-        asManyAsTheSettingTells();
-        fewerSamples();
-        longerAndShorter();
-        sinceTheLastRestart();
-        ignoredSamples();
-        fullIfAsMany();
-        atLeastThousandTimesTheSquare();
-        theSquareIsOfTheWindow();
-        neverExciting();
-        greatestDeterminant();
+        Checks.run(ExcitationEdgesTest::emptyWindow);
+        Checks.run(ExcitationEdgesTest::asManyAsTheSettingTells);
+        Checks.run(ExcitationEdgesTest::fewerSamples);
+        Checks.run(ExcitationEdgesTest::longerAndShorter);
+        Checks.run(ExcitationEdgesTest::sinceTheLastRestart);
+        Checks.run(ExcitationEdgesTest::ignoredSamples);
+        Checks.run(ExcitationEdgesTest::fullIfAsMany);
+        Checks.run(ExcitationEdgesTest::atLeastThousandTimesTheSquare);
+        Checks.run(ExcitationEdgesTest::theSquareIsOfTheWindow);
+        Checks.run(ExcitationEdgesTest::neverExciting);
+        Checks.run(ExcitationEdgesTest::greatestDeterminant);
         Checks.end("ExcitationEdgesTest");
     }
 

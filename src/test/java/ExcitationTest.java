@@ -1,9 +1,9 @@
 /** Promises 15 to 17: the window, its determinant, and whether it is exciting. */
 public final class ExcitationTest {
     public static void main(String[] args) {
-        promise15InWindow();
-        promise16Determinant();
-        promise17Exciting();
+        Checks.run(ExcitationTest::promise15InWindow);
+        Checks.run(ExcitationTest::promise16Determinant);
+        Checks.run(ExcitationTest::promise17Exciting);
         Checks.end("ExcitationTest");
     }
 

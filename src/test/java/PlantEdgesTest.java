@@ -3,23 +3,23 @@ import java.math.BigInteger;
 /** The sentences on the plant that name a bound: its output, its noise, and the number s that wraps around. */
 public final class PlantEdgesTest {
     public static void main(String[] args) {
-        outputAtMost();
-        outputAtLeast();
-        limitBehindTheNoise();
-        rounding();
-        greatestSums();
-        noNoise();
-        leastNoise();
-        greatestNoise();
-        wrapAround();
-        endsOfTheSeed();
-        sIsKept();
-        outputOfSeed();
-        setPlantKeepsOutput();
-        driveOfNoSteps();
-        driveOfAllSteps();
-        driveWithoutInputLimit();
-        driveTakesSamples();
+        Checks.run(PlantEdgesTest::outputAtMost);
+        Checks.run(PlantEdgesTest::outputAtLeast);
+        Checks.run(PlantEdgesTest::limitBehindTheNoise);
+        Checks.run(PlantEdgesTest::rounding);
+        Checks.run(PlantEdgesTest::greatestSums);
+        Checks.run(PlantEdgesTest::noNoise);
+        Checks.run(PlantEdgesTest::leastNoise);
+        Checks.run(PlantEdgesTest::greatestNoise);
+        Checks.run(PlantEdgesTest::wrapAround);
+        Checks.run(PlantEdgesTest::endsOfTheSeed);
+        Checks.run(PlantEdgesTest::sIsKept);
+        Checks.run(PlantEdgesTest::outputOfSeed);
+        Checks.run(PlantEdgesTest::setPlantKeepsOutput);
+        Checks.run(PlantEdgesTest::driveOfNoSteps);
+        Checks.run(PlantEdgesTest::driveOfAllSteps);
+        Checks.run(PlantEdgesTest::driveWithoutInputLimit);
+        Checks.run(PlantEdgesTest::driveTakesSamples);
         Checks.end("PlantEdgesTest");
     }
 

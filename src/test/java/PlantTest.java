@@ -1,14 +1,14 @@
 /** Promises 6, 7 and 20 to 22: the plant, open steps, output and bias. */
 public final class PlantTest {
     public static void main(String[] args) {
-        promise6SetPlant();
-        promise6Wrong();
-        promise7Seed();
-        promise20Drive();
-        promise20Noise();
-        promise20Wrong();
-        promise21Output();
-        promise22Bias();
+        Checks.run(PlantTest::promise6SetPlant);
+        Checks.run(PlantTest::promise6Wrong);
+        Checks.run(PlantTest::promise7Seed);
+        Checks.run(PlantTest::promise20Drive);
+        Checks.run(PlantTest::promise20Noise);
+        Checks.run(PlantTest::promise20Wrong);
+        Checks.run(PlantTest::promise21Output);
+        Checks.run(PlantTest::promise22Bias);
         Checks.end("PlantTest");
     }
 

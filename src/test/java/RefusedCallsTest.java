@@ -16,30 +16,30 @@ public final class RefusedCallsTest {
     }
 
     public static void main(String[] args) {
-        promise2Set();
-        promise3Value();
-        promise4SetBox();
-        promise4LowAboveHigh();
-        promise4WhichException();
-        promise5Box();
-        promise6SetPlant();
-        promise7Seed();
-        promise8Sample();
-        promise10Parameter();
-        promise11Covariance();
-        promise12Count();
-        promise13Predict();
-        promise14Uncertainty();
-        promise18Control();
-        promise19Run();
-        promise20Drive();
-        promise22Bias();
-        promise23CostOf();
-        promise24Settling();
-        promise25BestDither();
-        promise26Append();
-        promise26WhichException();
-        promise29Undo();
+        Checks.run(RefusedCallsTest::promise2Set);
+        Checks.run(RefusedCallsTest::promise3Value);
+        Checks.run(RefusedCallsTest::promise4SetBox);
+        Checks.run(RefusedCallsTest::promise4LowAboveHigh);
+        Checks.run(RefusedCallsTest::promise4WhichException);
+        Checks.run(RefusedCallsTest::promise5Box);
+        Checks.run(RefusedCallsTest::promise6SetPlant);
+        Checks.run(RefusedCallsTest::promise7Seed);
+        Checks.run(RefusedCallsTest::promise8Sample);
+        Checks.run(RefusedCallsTest::promise10Parameter);
+        Checks.run(RefusedCallsTest::promise11Covariance);
+        Checks.run(RefusedCallsTest::promise12Count);
+        Checks.run(RefusedCallsTest::promise13Predict);
+        Checks.run(RefusedCallsTest::promise14Uncertainty);
+        Checks.run(RefusedCallsTest::promise18Control);
+        Checks.run(RefusedCallsTest::promise19Run);
+        Checks.run(RefusedCallsTest::promise20Drive);
+        Checks.run(RefusedCallsTest::promise22Bias);
+        Checks.run(RefusedCallsTest::promise23CostOf);
+        Checks.run(RefusedCallsTest::promise24Settling);
+        Checks.run(RefusedCallsTest::promise25BestDither);
+        Checks.run(RefusedCallsTest::promise26Append);
+        Checks.run(RefusedCallsTest::promise26WhichException);
+        Checks.run(RefusedCallsTest::promise29Undo);
         Checks.end("RefusedCallsTest");
     }
 
@@ -54,14 +54,14 @@ public final class RefusedCallsTest {
 
     private static void allowed(String name, int value, Open open) {
         ToLongFunction<SelfTuner> call = x -> open.call(x, value);
-        Twins.dueAllowed(name + " = " + value + ", new object", SelfTuner::new, call);
-        Twins.dueAllowed(name + " = " + value + ", busy object", Twins::busy, call);
+        Checks.part(() -> Twins.dueAllowed(name + " = " + value + ", new object", SelfTuner::new, call));
+        Checks.part(() -> Twins.dueAllowed(name + " = " + value + ", busy object", Twins::busy, call));
     }
 
     private static void refused(String name, int value, Class<?> thrown, Open open) {
         ToLongFunction<SelfTuner> call = x -> open.call(x, value);
-        Twins.dueRefused(name + " = " + value + ", new object", SelfTuner::new, thrown, call);
-        Twins.dueRefused(name + " = " + value + ", busy object", Twins::busy, thrown, call);
+        Checks.part(() -> Twins.dueRefused(name + " = " + value + ", new object", SelfTuner::new, thrown, call));
+        Checks.part(() -> Twins.dueRefused(name + " = " + value + ", busy object", Twins::busy, thrown, call));
     }
 
     private static void promise2Set() {

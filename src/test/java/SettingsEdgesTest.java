@@ -4,19 +4,19 @@ public final class SettingsEdgesTest {
     private static final int END = 20 * ONE;
 
     public static void main(String[] args) {
-        setReturnsPrevious();
-        setBoxOutside();
-        setBoxAtAnEnd();
-        firstBoxes();
-        restartBringsIntoBoxes();
-        restartBeginsAnew();
-        restartOfNothing();
-        predictRounding();
-        predictEnds();
-        uncertaintyEnds();
-        biasEnds();
-        biasRounding();
-        countsSinceRestart();
+        Checks.run(SettingsEdgesTest::setReturnsPrevious);
+        Checks.run(SettingsEdgesTest::setBoxOutside);
+        Checks.run(SettingsEdgesTest::setBoxAtAnEnd);
+        Checks.run(SettingsEdgesTest::firstBoxes);
+        Checks.run(SettingsEdgesTest::restartBringsIntoBoxes);
+        Checks.run(SettingsEdgesTest::restartBeginsAnew);
+        Checks.run(SettingsEdgesTest::restartOfNothing);
+        Checks.run(SettingsEdgesTest::predictRounding);
+        Checks.run(SettingsEdgesTest::predictEnds);
+        Checks.run(SettingsEdgesTest::uncertaintyEnds);
+        Checks.run(SettingsEdgesTest::biasEnds);
+        Checks.run(SettingsEdgesTest::biasRounding);
+        Checks.run(SettingsEdgesTest::countsSinceRestart);
         Checks.end("SettingsEdgesTest");
     }
 

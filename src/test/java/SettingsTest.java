@@ -4,13 +4,13 @@ public final class SettingsTest {
     private static final int END = 20 * 65536;
 
     public static void main(String[] args) {
-        promise1NewObject();
-        promise2Set();
-        promise2Wrong();
-        promise3Value();
-        promise4SetBox();
-        promise4Wrong();
-        promise5Box();
+        Checks.run(SettingsTest::promise1NewObject);
+        Checks.run(SettingsTest::promise2Set);
+        Checks.run(SettingsTest::promise2Wrong);
+        Checks.run(SettingsTest::promise3Value);
+        Checks.run(SettingsTest::promise4SetBox);
+        Checks.run(SettingsTest::promise4Wrong);
+        Checks.run(SettingsTest::promise5Box);
         Checks.end("SettingsTest");
     }
 

@@ -9,30 +9,30 @@ public final class TextEdgesTest {
         "1234", "-1234", "0000", "1,1234", "1,-1234", "1,2,1234", "1,2,-1234", "1,2,3;1234", "1,2,3;4,5,-1234"};
 
     public static void main(String[] args) {
-        atMost120Bytes();
-        allBytes();
-        clearTextOfNothing();
-        clearTextOfAll();
-        noSamples();
-        twentySamples();
-        fullText();
-        endsTooEarly();
-        fifthDigit();
-        cannotStand();
-        firstByteThatCannotStand();
-        optionalMinus();
-        oneToFourDigits();
-        noSpaces();
-        rangeOfY();
-        rangeOfU();
-        rangeOfZ();
-        firstSampleOutOfRange();
-        syntaxErrorBeforeRange();
-        outOfRangeChangesNothing();
-        syntaxErrorChangesNothing();
-        textStays();
-        undoableIfAllAreTaken();
-        oneAfterTheOther();
+        Checks.run(TextEdgesTest::atMost120Bytes);
+        Checks.run(TextEdgesTest::allBytes);
+        Checks.run(TextEdgesTest::clearTextOfNothing);
+        Checks.run(TextEdgesTest::clearTextOfAll);
+        Checks.run(TextEdgesTest::noSamples);
+        Checks.run(TextEdgesTest::twentySamples);
+        Checks.run(TextEdgesTest::fullText);
+        Checks.run(TextEdgesTest::endsTooEarly);
+        Checks.run(TextEdgesTest::fifthDigit);
+        Checks.run(TextEdgesTest::cannotStand);
+        Checks.run(TextEdgesTest::firstByteThatCannotStand);
+        Checks.run(TextEdgesTest::optionalMinus);
+        Checks.run(TextEdgesTest::oneToFourDigits);
+        Checks.run(TextEdgesTest::noSpaces);
+        Checks.run(TextEdgesTest::rangeOfY);
+        Checks.run(TextEdgesTest::rangeOfU);
+        Checks.run(TextEdgesTest::rangeOfZ);
+        Checks.run(TextEdgesTest::firstSampleOutOfRange);
+        Checks.run(TextEdgesTest::syntaxErrorBeforeRange);
+        Checks.run(TextEdgesTest::outOfRangeChangesNothing);
+        Checks.run(TextEdgesTest::syntaxErrorChangesNothing);
+        Checks.run(TextEdgesTest::textStays);
+        Checks.run(TextEdgesTest::undoableIfAllAreTaken);
+        Checks.run(TextEdgesTest::oneAfterTheOther);
         Checks.end("TextEdgesTest");
     }
 

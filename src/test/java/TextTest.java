@@ -1,12 +1,12 @@
 /** Promises 26 to 28: the sample text. */
 public final class TextTest {
     public static void main(String[] args) {
-        promise26Append();
-        promise27ClearText();
-        promise28Replay();
-        promise28SyntaxErrors();
-        promise28OutOfRange();
-        promise28FullText();
+        Checks.run(TextTest::promise26Append);
+        Checks.run(TextTest::promise27ClearText);
+        Checks.run(TextTest::promise28Replay);
+        Checks.run(TextTest::promise28SyntaxErrors);
+        Checks.run(TextTest::promise28OutOfRange);
+        Checks.run(TextTest::promise28FullText);
         Checks.end("TextTest");
     }
 

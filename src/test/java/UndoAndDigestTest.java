@@ -1,12 +1,12 @@
 /** Promises 29 and 30: saved states, and the hash of the state. */
 public final class UndoAndDigestTest {
     public static void main(String[] args) {
-        promise29Undo();
-        promise29FourStates();
-        promise29Everything();
-        promise29FailingCalls();
-        promise30Digest();
-        promise30EachValue();
+        Checks.run(UndoAndDigestTest::promise29Undo);
+        Checks.run(UndoAndDigestTest::promise29FourStates);
+        Checks.run(UndoAndDigestTest::promise29Everything);
+        Checks.run(UndoAndDigestTest::promise29FailingCalls);
+        Checks.run(UndoAndDigestTest::promise30Digest);
+        Checks.run(UndoAndDigestTest::promise30EachValue);
         Checks.end("UndoAndDigestTest");
     }
 

@@ -7,21 +7,21 @@ public final class UndoEdgesTest {
     private static final int END = 20 * 65536;
 
     public static void main(String[] args) {
-        atMostFour();
-        oldestDroppedFirst();
-        fourStatesOfLongRuns();
-        remaining();
-        mostRecent();
-        noSavedState();
-        undoableMethods();
-        evenIfNothingChanges();
-        otherMethodsSaveNothing();
-        textMethodsSaveNothing();
-        everythingExceptTheText();
-        undoIsNotUndoable();
-        refusedCallsSaveNothing();
-        digestEnds();
-        digestOfSavedStates();
+        Checks.run(UndoEdgesTest::atMostFour);
+        Checks.run(UndoEdgesTest::oldestDroppedFirst);
+        Checks.run(UndoEdgesTest::fourStatesOfLongRuns);
+        Checks.run(UndoEdgesTest::remaining);
+        Checks.run(UndoEdgesTest::mostRecent);
+        Checks.run(UndoEdgesTest::noSavedState);
+        Checks.run(UndoEdgesTest::undoableMethods);
+        Checks.run(UndoEdgesTest::evenIfNothingChanges);
+        Checks.run(UndoEdgesTest::otherMethodsSaveNothing);
+        Checks.run(UndoEdgesTest::textMethodsSaveNothing);
+        Checks.run(UndoEdgesTest::everythingExceptTheText);
+        Checks.run(UndoEdgesTest::undoIsNotUndoable);
+        Checks.run(UndoEdgesTest::refusedCallsSaveNothing);
+        Checks.run(UndoEdgesTest::digestEnds);
+        Checks.run(UndoEdgesTest::digestOfSavedStates);
         Checks.end("UndoEdgesTest");
     }
 

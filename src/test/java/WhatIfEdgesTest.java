@@ -3,26 +3,26 @@ public final class WhatIfEdgesTest {
     private static final int ONE = 65536;
 
     public static void main(String[] args) {
-        costOfNoSteps();
-        costOfOneStep();
-        costOfAllSteps();
-        greatestCost();
-        costOfChangesNothing();
-        costOfSumsSteps();
-        settlingWithinTheTolerance();
-        settlingAtTheTolerance();
-        settlingFiveInARow();
-        settlingFiveIncluded();
-        settlingOutputBefore();
-        settlingLastStep();
-        settlingNone();
-        settlingChangesNothing();
-        bestDitherOfNone();
-        bestDitherGreatest();
-        bestDitherSmallestOfSeveral();
-        bestDitherSteps();
-        bestDitherWhateverIsSet();
-        bestDitherChangesNothing();
+        Checks.run(WhatIfEdgesTest::costOfNoSteps);
+        Checks.run(WhatIfEdgesTest::costOfOneStep);
+        Checks.run(WhatIfEdgesTest::costOfAllSteps);
+        Checks.run(WhatIfEdgesTest::greatestCost);
+        Checks.run(WhatIfEdgesTest::costOfChangesNothing);
+        Checks.run(WhatIfEdgesTest::costOfSumsSteps);
+        Checks.run(WhatIfEdgesTest::settlingWithinTheTolerance);
+        Checks.run(WhatIfEdgesTest::settlingAtTheTolerance);
+        Checks.run(WhatIfEdgesTest::settlingFiveInARow);
+        Checks.run(WhatIfEdgesTest::settlingFiveIncluded);
+        Checks.run(WhatIfEdgesTest::settlingOutputBefore);
+        Checks.run(WhatIfEdgesTest::settlingLastStep);
+        Checks.run(WhatIfEdgesTest::settlingNone);
+        Checks.run(WhatIfEdgesTest::settlingChangesNothing);
+        Checks.run(WhatIfEdgesTest::bestDitherOfNone);
+        Checks.run(WhatIfEdgesTest::bestDitherGreatest);
+        Checks.run(WhatIfEdgesTest::bestDitherSmallestOfSeveral);
+        Checks.run(WhatIfEdgesTest::bestDitherSteps);
+        Checks.run(WhatIfEdgesTest::bestDitherWhateverIsSet);
+        Checks.run(WhatIfEdgesTest::bestDitherChangesNothing);
         Checks.end("WhatIfEdgesTest");
     }
 

@@ -1,9 +1,9 @@
 /** Promises 23 to 25: the cost of closed steps, settling, and the best dither. */
 public final class WhatIfTest {
     public static void main(String[] args) {
-        promise23CostOf();
-        promise24Settling();
-        promise25BestDither();
+        Checks.run(WhatIfTest::promise23CostOf);
+        Checks.run(WhatIfTest::promise24Settling);
+        Checks.run(WhatIfTest::promise25BestDither);
         Checks.end("WhatIfTest");
     }
 
