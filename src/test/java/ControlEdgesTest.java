@@ -226,8 +226,8 @@ public final class ControlEdgesTest {
         SelfTuner y = Twins.busy();
         int samples = x.count(0);
         int last = 0;
-        for (int i = 0; i < 500; i++) {
-            last = y.run(-77, 1);
+        for (int i = 0; i < 250; i++) {
+            last = y.run(-77, 2);
         }
         Checks.due("run(-77, 500)", x.run(-77, 500), last);
         Checks.due("count(0)", x.count(0), samples + 500);

@@ -237,8 +237,8 @@ public final class PlantEdgesTest {
         SelfTuner y = Twins.busy();
         int samples = x.count(0);
         int last = 0;
-        for (int i = 0; i < 500; i++) {
-            last = y.drive(-77, 1);
+        for (int i = 0; i < 250; i++) {
+            last = y.drive(-77, 2);
         }
         Checks.due("drive(-77, 500)", x.drive(-77, 500), last);
         Checks.due("count(0)", x.count(0), samples + 500);
