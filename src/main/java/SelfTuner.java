@@ -1,9 +1,8 @@
 /**
- * A self-tuning controller in fixed point: recursive least squares for three parameters, a control
- * law, a simulated plant, what-if runs and samples that are read from a text.
+ * The document ../shared/DOC.md promises what each public method does, in the same order, so the comments
+ * here do not tell it again.
  */
 public final class SelfTuner {
-    /** There is no such thing. */
     public static final int NONE = -1;
 
     private static final int ONE = 65536;
@@ -49,7 +48,6 @@ public final class SelfTuner {
     private int savedStates = 0;
     private final SampleText text = new SampleText();
 
-    /** Creates a controller with the initial values. */
     public SelfTuner() {
         for (int i = 0; i < MOST_SAVED; i++) {
             saved[i] = new State();
@@ -58,7 +56,6 @@ public final class SelfTuner {
 
     // ---- settings
 
-    /** Sets a value and returns the previous one; undoable. */
     public int set(int what, int value) throws IllegalArgumentException {
         demandRange(what, 0, SETTINGS - 1);
         demandRange(value, LEAST_SETTINGS[what], MOST_SETTINGS[what]);
@@ -68,13 +65,11 @@ public final class SelfTuner {
         return previous;
     }
 
-    /** Returns a value. */
     public int value(int what) throws IllegalArgumentException {
         demandRange(what, 0, SETTINGS - 1);
         return state.settings[what];
     }
 
-    /** Sets the box of a parameter and tells by 1 that the parameter was outside of it; undoable. */
     public int setBox(int parameter, int low, int high)
             throws IndexOutOfBoundsException, IllegalArgumentException {
         demandParameter(parameter);
@@ -86,13 +81,11 @@ public final class SelfTuner {
         return state.estimator.bringIntoBox(parameter, state.estimator.parameters[parameter]) ? 1 : 0;
     }
 
-    /** Returns an end of the box of a parameter. */
     public int box(int parameter, boolean high) throws IndexOutOfBoundsException {
         demandParameter(parameter);
         return high ? state.estimator.high[parameter] : state.estimator.low[parameter];
     }
 
-    /** Sets the numbers of the plant and returns its output; undoable. */
     public int setPlant(int p, int q, int c, int noise) throws IllegalArgumentException {
         demandRange(p, -MOST_PLANT_NUMBER, MOST_PLANT_NUMBER);
         demandRange(q, -MOST_PLANT_NUMBER, MOST_PLANT_NUMBER);
@@ -107,7 +100,6 @@ public final class SelfTuner {
         return plant.output;
     }
 
-    /** Sets the random number of the plant and its output, and returns the previous output; undoable. */
     public int seed(int seed, int output) throws IllegalArgumentException {
         demandRange(seed, 0, MOST_SEED);
         demandRange(output, -MOST_SIGNAL, MOST_SIGNAL);
@@ -120,7 +112,6 @@ public final class SelfTuner {
 
     // ---- estimator
 
-    /** Lets the estimator take a sample and returns the error in whole units; undoable. */
     public long sample(int y, int u, int z) throws IllegalArgumentException {
         demandSignal(y);
         demandSignal(u);
@@ -129,7 +120,6 @@ public final class SelfTuner {
         return divideDown(state.estimator.take(state.settings, y, u, z), ONE);
     }
 
-    /** Begins the estimation anew and returns the number of samples that there were; undoable. */
     public int restart() {
         saveState();
         int samples = state.estimator.counts[SAMPLES];
@@ -137,33 +127,28 @@ public final class SelfTuner {
         return samples;
     }
 
-    /** Returns a parameter in fixed point. */
     public int parameter(int parameter) throws IndexOutOfBoundsException {
         demandParameter(parameter);
         return state.estimator.parameters[parameter];
     }
 
-    /** Returns an element of P in fixed point. */
     public long covariance(int i, int j) throws IndexOutOfBoundsException {
         demandParameter(i);
         demandParameter(j);
         return state.estimator.matrix[PARAMETERS * i + j];
     }
 
-    /** Returns one of the counts since the last restart. */
     public int count(int what) throws IllegalArgumentException {
         demandRange(what, 0, COUNTS - 1);
         return state.estimator.counts[what];
     }
 
-    /** Predicts the output after an output and an input. */
     public long predict(int y, int u) throws IllegalArgumentException {
         demandSignal(y);
         demandSignal(u);
         return divideDown(state.estimator.weightedSum(y, u), ONE);
     }
 
-    /** Returns the uncertainty of a prediction. */
     public double uncertainty(int y, int u) throws IllegalArgumentException {
         demandSignal(y);
         demandSignal(u);
@@ -172,17 +157,14 @@ public final class SelfTuner {
 
     // ---- excitation
 
-    /** Returns the number of samples in the window. */
     public int inWindow() {
         return state.estimator.window.size(state.settings[WINDOW]);
     }
 
-    /** Returns A * B - C * C of the window. */
     public long determinant() {
         return state.estimator.window.excitation(state.settings[WINDOW]);
     }
 
-    /** Tells whether the window is exciting. */
     public boolean exciting() {
         long samples = inWindow();
         return samples == state.settings[WINDOW] && determinant() >= 1000 * samples * samples;
@@ -190,14 +172,12 @@ public final class SelfTuner {
 
     // ---- control
 
-    /** Returns the input of the control law. */
     public int control(int r, int y) throws IllegalArgumentException {
         demandSignal(r);
         demandSignal(y);
         return state.inputFor(r, y);
     }
 
-    /** Does closed steps and returns the output of the plant afterwards; undoable. */
     public int run(int r, int steps) throws IllegalArgumentException {
         demandSignal(r);
         demandRange(steps, 0, MOST_STEPS);
@@ -208,7 +188,6 @@ public final class SelfTuner {
         return state.plant.output;
     }
 
-    /** Does open steps and returns the output of the plant afterwards; undoable. */
     public int drive(int u, int steps) throws IllegalArgumentException {
         demandSignal(u);
         demandRange(steps, 0, MOST_STEPS);
@@ -219,12 +198,10 @@ public final class SelfTuner {
         return state.plant.output;
     }
 
-    /** Returns the output of the plant. */
     public int output() {
         return state.plant.output;
     }
 
-    /** Returns the difference of a parameter and the number of the plant that it estimates. */
     public int bias(int parameter) throws IndexOutOfBoundsException {
         demandParameter(parameter);
         long number = divideDown((long) ONE * state.plant.numbers[parameter], 1000);
@@ -233,7 +210,6 @@ public final class SelfTuner {
 
     // ---- what if
 
-    /** Returns the sum of the absolute differences of r and the output after each closed step. */
     public long costOf(int r, int steps) throws IllegalArgumentException {
         demandSignal(r);
         demandRange(steps, 0, MOST_STEPS);
@@ -241,7 +217,6 @@ public final class SelfTuner {
         return trial.costOfSteps(r, steps);
     }
 
-    /** Returns the number of closed steps until the output has kept to r for 5 steps, or NONE. */
     public int settling(int r, int tolerance) throws IllegalArgumentException {
         demandSignal(r);
         demandRange(tolerance, 0, MOST_TOLERANCE);
@@ -257,18 +232,17 @@ public final class SelfTuner {
         return NONE;
     }
 
-    /** Returns the dither with the smallest cost, of several the smallest one. */
     public int bestDither(int r, int steps, int most) throws IllegalArgumentException {
         demandSignal(r);
         demandRange(steps, 1, MOST_DITHER_STEPS);
         demandRange(most, 0, MOST_DITHER);
-        int best = 0;
-        long smallest = Long.MAX_VALUE;
+        int best = NONE;
+        long smallest = 0;
         for (int dither = 0; dither <= most; dither++) {
             trial.copyFrom(state);
             trial.settings[DITHER] = dither;
             long cost = trial.costOfSteps(r, steps);
-            if (cost < smallest) {
+            if (best == NONE || cost < smallest) {
                 smallest = cost;
                 best = dither;
             }
@@ -278,23 +252,20 @@ public final class SelfTuner {
 
     // ---- text
 
-    /** Appends a byte to the sample text and returns the new length. */
     public int append(int value) throws IllegalArgumentException, IllegalStateException {
         demandRange(value, 0, MOST_BYTE);
-        if (!text.add(value)) {
+        if (!text.addIfRoom(value)) {
             throw new IllegalStateException("the sample text is full");
         }
         return text.length;
     }
 
-    /** Empties the sample text and returns the length that it had. */
     public int clearText() {
         int length = text.length;
         text.length = 0;
         return length;
     }
 
-    /** Lets the estimator take the samples of the text, all or none; undoable if all are taken. */
     public int replay() {
         int error = text.read();
         if (error != NONE) {
@@ -313,7 +284,6 @@ public final class SelfTuner {
 
     // ---- state
 
-    /** Restores the most recently saved state and returns the number of those that remain. */
     public int undo() throws IllegalStateException {
         if (savedStates <= 0) {
             throw new IllegalStateException("there is no saved state");
@@ -323,7 +293,6 @@ public final class SelfTuner {
         return savedStates;
     }
 
-    /** Returns a hash of the state. */
     public long digest() {
         long h = mixed(2971, text.length);
         h = state.mixedSettings(h);
@@ -432,7 +401,7 @@ public final class SelfTuner {
         }
     }
 
-    /** Recursive least squares for the regressor (y, u, 1). */
+    /** The regressor (y, u, 1) is told by y and u alone, since its last element never changes. */
     private static final class Estimator {
         private static final long MOST_GAIN = 100L * ONE;
         private static final long MOST_ELEMENT = 1000L * ONE;
@@ -482,14 +451,14 @@ public final class SelfTuner {
             }
         }
 
-        /** Gives the parameter a value, or the end of its box; tells whether the value was outside. */
+        /** Answers whether the value was outside: setBox tells it, and step 4 counts it. */
         private boolean bringIntoBox(int parameter, long value) {
             long inside = bring(value, low[parameter], high[parameter]);
             parameters[parameter] = (int) inside;
             return inside != value;
         }
 
-        /** Returns the error in fixed point. */
+        /** The error stays in fixed point: only the answer of a sample is rounded to whole units. */
         private long take(int[] settings, int y, int u, int z) {
             long error = (long) ONE * z - weightedSum(y, u);
             counts[SAMPLES]++;
@@ -545,7 +514,7 @@ public final class SelfTuner {
             return (long) parameters[0] * y + (long) parameters[1] * u + parameters[2];
         }
 
-        /** Leaves P times the regressor in the row of directions. */
+        /** P times the regressor stays in the row of directions, since the steps 3 and 5 need it again. */
         private long spread(int y, int u) {
             for (int i = 0; i < PARAMETERS; i++) {
                 int row = PARAMETERS * i;
@@ -643,7 +612,7 @@ public final class SelfTuner {
         }
     }
 
-    /** The bytes, and the numbers that were read from them last. */
+    /** All numbers are read before the first is taken: one out of range must leave everything as it was. */
     private static final class SampleText {
         private static final int NUMBERS_OF_SAMPLE = 3;
         private static final int MOST_DIGITS = 4;
@@ -656,8 +625,7 @@ public final class SelfTuner {
         private int samples = 0;
         private int position = 0;
 
-        /** Tells whether there was room. */
-        private boolean add(int value) {
+        private boolean addIfRoom(int value) {
             if (length >= MOST_TEXT) {
                 return false;
             }
@@ -666,7 +634,7 @@ public final class SelfTuner {
             return true;
         }
 
-        /** Returns the syntax error position, or NONE. */
+        /** Answers the position of the syntax error, but NONE without one, since 0 is a position too. */
         private int read() {
             samples = 0;
             position = 0;
@@ -710,7 +678,6 @@ public final class SelfTuner {
             return numbers[NUMBERS_OF_SAMPLE * sample + which];
         }
 
-        /** Returns the first sample with a number out of range, or NONE. */
         private int firstOutOfRange() {
             for (int i = 0; i < samples; i++) {
                 if (!isWithin(number(i, 0), -MOST_SIGNAL, MOST_SIGNAL)

@@ -1,14 +1,11 @@
-import java.io.IOException;
 import java.lang.reflect.Constructor;
 import java.lang.reflect.Field;
 import java.lang.reflect.Method;
 import java.lang.reflect.Modifier;
-import java.nio.file.Files;
-import java.nio.file.Path;
 import java.util.Set;
 import java.util.TreeSet;
 
-/** The public face, and those rules of LANGUAGE.md that a look at the class or its text can tell. */
+/** The public face, and nothing beside it: LANGUAGE.md, rule 1. */
 public final class FaceTest {
     private static final String ARGUMENT = " throws IllegalArgumentException";
     private static final String INDEX = " throws IndexOutOfBoundsException";
@@ -24,10 +21,8 @@ public final class FaceTest {
         "int bias(int)" + INDEX, "long costOf(int, int)" + ARGUMENT, "int settling(int, int)" + ARGUMENT,
         "int bestDither(int, int, int)" + ARGUMENT, "int append(int)" + ARGUMENT + ", IllegalStateException",
         "int clearText()", "int replay()", "int undo() throws IllegalStateException", "long digest()"};
-    private static final String[] FORBIDDEN = {
-        "import ", "->", "::", "finally", "synchronized", "assert", "Exact(", "catch", "static {", "package "};
 
-    public static void main(String[] args) throws IOException {
+    public static void main(String[] args) {
         Class<?> c = SelfTuner.class;
         Checks.due("the class is public and final", c.getModifiers(), Modifier.PUBLIC | Modifier.FINAL);
         methods(c);
@@ -36,11 +31,6 @@ public final class FaceTest {
         Checks.due("one constructor", constructors.length, 1);
         Checks.due("it is public", constructors[0].getModifiers(), Modifier.PUBLIC);
         Checks.due("without parameters", constructors[0].getParameterCount(), 0);
-        for (Class<?> inside : c.getDeclaredClasses()) {
-            Checks.due(inside + " is not public", Modifier.isPublic(inside.getModifiers()), false);
-            Checks.due(inside + " is static", Modifier.isStatic(inside.getModifiers()), true);
-        }
-        text(Files.readString(Path.of(args[0])));
         Checks.end("FaceTest");
     }
 
@@ -91,13 +81,5 @@ public final class FaceTest {
             Checks.due(f + " is no changing static", Modifier.isStatic(f.getModifiers())
                     && !Modifier.isFinal(f.getModifiers()), false);
         }
-    }
-
-    private static void text(String source) {
-        String code = source.replaceAll("(?s)/\\*.*?\\*/", "").replaceAll("//[^\n]*", "");
-        for (String word : FORBIDDEN) {
-            Checks.due("the program has no " + word, code.contains(word), false);
-        }
-        Checks.due("the program is in ASCII", source.chars().allMatch(ch -> ch < 128), true);
     }
 }
